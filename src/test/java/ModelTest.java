@@ -1,6 +1,6 @@
 /** All promises: runs of many calls, each answer compared with the one of the slow model. */
 public final class ModelTest {
-    private static final int RUNS = 150;
+    private static final int RUNS = 80;
     private static final Due DUE = new Due();
 
     private final int run;

@@ -8,6 +8,8 @@ public final class PlanTest {
         leastR();
         severalCellsAtOnce();
         severalInserts();
+        spotsAside();
+        theWholeBar();
         nothingToCut();
         noPlan();
         plannedAnew();
@@ -115,6 +117,37 @@ public final class PlanTest {
         DUE.is("left()", y.left(), 0);
     }
 
+    // It cuts with its nearer spot alone: the farther one, which is outside of the bar, meets the chuck first.
+    private static void spotsAside() {
+        TurnedBar x = new TurnedBar();
+        x.bar(1, 3, 2);
+        x.spot(1, 2, 1);
+        x.spot(1, 1, 0);
+        x.choose(1);
+        DUE.is("plan()", x.plan(), 4);
+        DUE.move(x, 1, 0, 0, 3);
+        DUE.move(x, 2, 0, 2, 14);
+        DUE.move(x, 3, 1, 2, 1);
+        DUE.is("left()", x.left(), 2);
+        DUE.is("reach(1, 0, 0)", x.reach(1, 0, 0), true);
+        DUE.is("reach(1, 1, 0)", x.reach(1, 1, 0), false);
+    }
+
+    // As many cuts as there are cells: down the first column, up the second, and so on.
+    private static void theWholeBar() {
+        TurnedBar x = with(8, 12, 12);
+        DUE.is("plan()", x.plan(), 26);
+        DUE.move(x, 2, 0, 2, 7);
+        DUE.move(x, 3, 1, 2, 8);
+        for (int column = 1; column < 12; column++) {
+            DUE.move(x, 2 * column + 2, 1, 0, 1);
+            DUE.move(x, 2 * column + 3, 1, column % 2 == 1 ? 3 : 2, 7);
+        }
+        DUE.is("steps(1)", x.steps(1), 96);
+        DUE.is("simulate(26)", x.simulate(26), 96);
+        DUE.is("left()", x.left(), 0);
+    }
+
     private static void nothingToCut() {
         TurnedBar x = with(3, 4, 0);
         x.choose(0);
@@ -142,6 +175,8 @@ public final class PlanTest {
         DUE.is("move(0, 0)", x.move(0, 0), TurnedBar.NONE);
         x.spot(1, 1, 0);
         DUE.is("with spots again", x.plan(), 5);
+        x.clear(0);
+        DUE.is("the first one without spots", x.plan(), TurnedBar.NONE);
         DUE.is("the row stayed", x.restart(), 2);
     }
 

@@ -59,6 +59,8 @@ public final class TrialTest {
         DUE.move(x, 1, 0, 0, 4);
         DUE.move(x, 2, 0, 2, 13);
         DUE.move(x, 3, 1, 2, 2);
+        x.edit(0, 0, 0, 1);
+        DUE.is("undo() of the first move", x.undo(), 1);
         x.edit(1, 0, 0, 4);
         x.edit(0, 2, 7, 7);
         DUE.is("edited to the same", x.undo(), 0);
@@ -198,6 +200,26 @@ public final class TrialTest {
         x.edit(3, 0, 0, 1);
         DUE.is("no third one", x.fault(), 44);
         DUE.is("simulate(4) ends before it", x.simulate(4), 0);
+        otherInserts();
+    }
+
+    // Each change takes the next one of the row: what is safe for the first is not for the second.
+    private static void otherInserts() {
+        TurnedBar x = new TurnedBar();
+        x.bar(1, 1, 2);
+        x.spot(0, 0, 0);
+        x.spot(2, 2, 0);
+        x.choose(0);
+        x.choose(2);
+        DUE.is("plan()", x.plan(), 5);
+        x.edit(1, 0, 0, 5);
+        x.edit(2, 2, 0, 0);
+        x.edit(3, 0, 0, 3);
+        x.edit(4, 0, 0, 1);
+        DUE.is("the second one in the chuck", x.fault(), 41);
+        x.edit(0, 2, 0, 0);
+        x.edit(1, 2, 0, 0);
+        DUE.is("a third change", x.fault(), 24);
     }
 
     private static void feedsOfNothing() {
@@ -220,6 +242,8 @@ public final class TrialTest {
         DUE.is("feed of the trial, faults or not", x.steps(1), 42);
         x.edit(3, 2, 0, 30);
         DUE.is("a change has none", x.steps(1), 40);
+        x.edit(0, 1, 0, 2);
+        DUE.is("the first move counts", x.steps(1), 42);
         x.undo();
         DUE.is("rapid again", x.steps(0), 17);
         x.restart();
