@@ -147,6 +147,7 @@ public final class TurnedBar {
         if (!job.isReady() || !planner.make()) {
             return NONE;
         }
+        // The planner has cut in the scratch stock, which fault() will use for its own.
         leftByPlan = scratch.countWaste(blank);
         trial.copyFrom(planned);
         hasPlan = true;
