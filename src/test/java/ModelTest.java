@@ -30,8 +30,11 @@ public final class ModelTest {
         return (int) Math.floorMod(seed >>> 16, (long) bound);
     }
 
-    /** Mostly a number of the range, at times one just beyond it. */
+    /** Mostly a number of the range, at times one just beyond it, and now and then the least or the greatest of all. */
     private int near(int least, int most) {
+        if (below(60) == 0) {
+            return below(2) == 0 ? Integer.MIN_VALUE : Integer.MAX_VALUE;
+        }
         return below(12) == 0 ? least - 1 + below(most - least + 3) : least + below(most - least + 1);
     }
 
