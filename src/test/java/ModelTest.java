@@ -1,6 +1,7 @@
 /** All promises: runs of many calls, each answer compared with the one of the slow model. */
 public final class ModelTest {
     private static final int RUNS = 80;
+    private static final int MOST_CALLS = 512;
     private static final Due DUE = new Due();
 
     private final int run;
@@ -39,6 +40,17 @@ public final class ModelTest {
     }
 
     private void go() {
+        if (run % 4 == 3) {
+            goInAnyOrder();
+        } else {
+            goAsOneWould();
+        }
+        if (calls > MOST_CALLS) {
+            throw new IllegalStateException("too many calls in a run: " + calls);
+        }
+    }
+
+    private void goAsOneWould() {
         for (int round = 0; round < 4 && !DUE.isWrong(); round++) {
             setUp();
             planAndLook();
@@ -46,8 +58,20 @@ public final class ModelTest {
                 tryOut();
             }
         }
-        if (calls > 512) {
-            throw new IllegalStateException("too many calls in a run: " + calls);
+    }
+
+    /** Here a plan is dropped at any time, by any call that does so, and what is asked next may need one. */
+    private void goInAnyOrder() {
+        while (calls < MOST_CALLS - 2 && !DUE.isWrong()) {
+            switch (below(80)) {
+                case 0 -> bar(near(1, 8), near(1, 12), below(2) == 0 ? 12 : near(0, 12));
+                case 1 -> profile(near(0, 11), below(2) == 0 ? 0 : near(0, 8));
+                case 2, 3 -> spot(near(0, 2), near(-2, 2), near(0, 4));
+                case 4 -> clear(near(0, 8));
+                case 5, 6, 7 -> choose(near(0, 2));
+                case 8, 9, 10, 11, 12, 13 -> due("plan()", x.plan(), model.plan());
+                default -> tryOut();
+            }
         }
     }
 
@@ -102,7 +126,7 @@ public final class ModelTest {
     }
 
     private void tryOut() {
-        switch (below(15)) {
+        switch (below(16)) {
             case 0, 1, 2 -> edit();
             case 3, 4 -> due("fault()", x.fault(), model.fault());
             case 5, 6 -> simulate();
@@ -114,6 +138,7 @@ public final class ModelTest {
             case 9, 10, 11 -> at();
             case 12 -> reach();
             case 13 -> due("left()", x.left(), model.left());
+            case 14 -> move();
             default -> {
                 if (below(3) == 0) {
                     due("undo()", x.undo(), model.undo());
@@ -150,6 +175,12 @@ public final class ModelTest {
 
     private void restart() {
         due("restart()", x.restart(), model.restart());
+    }
+
+    private void move() {
+        int i = near(0, 8);
+        int what = near(0, 2);
+        due("move(" + i + ", " + what + ")", x.move(i, what), model.move(i, what));
     }
 
     private void edit() {
